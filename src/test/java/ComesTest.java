@@ -26,6 +26,11 @@ public final class ComesTest {
         CHECK.due("behind the set that is OFF", 0, x.comes(3, 255));
         x.undo();
         CHECK.due("as it was", 48, x.comes(3, 255));
+        x.turn(0, false);
+        CHECK.due("OFF", 0, x.comes(0, 200));
+        x.undo();
+        CHECK.due("as it was", 200, x.comes(0, 200));
+        CHECK.due("as it was", 48, x.comes(3, 255));
         x.hold(0);
         x.turn(0, false);
         CHECK.due("OFF", 0, x.comes(0, 255));
@@ -93,6 +98,7 @@ public final class ComesTest {
         // a lesser one of more PARTS is not taken
         HeardNext z = Check.terrace("house a 0 0;house b 128 0;keeps=if parts<2 then part-5 else 1;turns=if 1<parts then 7 else 1;");
         CHECK.due("64 alone, turned by 1", 64, z.sendFor(1));
+        CHECK.due("all eight", 255, Check.terrace("house a 255 0;").sendFor(0));
         HeardNext h = Check.terrace("house a 1 0;sends 0 1;");
         h.hours(1);
         CHECK.due("had already is WANTED still", 1, h.sendFor(0));
@@ -123,6 +129,9 @@ public final class ComesTest {
         CHECK.due("code(3, 2)", 2, x.code(3, 2, -1));
         CHECK.due("code(3, 2, 1)", 12, x.code(3, 2, 1));
         CHECK.due("code(3, 3)", 1, x.code(3, 3, -1));
+        x.tell(0, 9);
+        CHECK.due("one is left", 9, x.sent(1, 1));
+        CHECK.due("whatever was asked ahead", 0, x.code(0, 4, 0));
         CHECK.due("code(0, 0)", -1, x.code(0, 0, -1));
         CHECK.due("code(0, 9)", -1, x.code(0, 9, -1));
         CHECK.due("code(0, 8)", 2, x.code(0, 8, -1));
@@ -166,6 +175,9 @@ public final class ComesTest {
         CHECK.due("all alike", 0, x.widest(2, 0));
         CHECK.due("all alike", 0, x.widest(2, 1));
         CHECK.due("all alike", 1, x.widest(2, 2));
+        HeardNext v = Check.terrace("house a 0 0;house b 0 0;hums=240;");
+        CHECK.due("all but the hum", 4, v.widest(1, 0));
+        CHECK.due("all but the hum", 15, v.widest(1, 2));
         // 1 and 2 come as they are, all others as 0
         HeardNext y = Check.terrace("house a 0 0;house b 0 0;keeps=if parts<2 then 2-part else 0;turns=0;");
         CHECK.due("1 and 2", 2, y.widest(1, 0));
@@ -229,6 +241,16 @@ public final class ComesTest {
         CHECK.due("PARTS 0 and 2 are left, in hours 8 and 10", 7, x.times(1, 1));
         x.change(1, 2);
         CHECK.due("WANTED 15: not by three", -2, x.times(1, -1));
+        HeardNext y = Check.terrace("house a 3 1;house b 7 2;house c 3 1;keeps=if part<1 then 24-hour else if part<2 then hour/23 else if hour<1 then 1 else 0;");
+        // PART 0 in all hours, PART 1 in hour 23, PART 2 in hour 0: the last two of the 24
+        CHECK.due("two of them", 2, y.times(1, -1));
+        CHECK.due("two of them", 22, y.times(1, 0));
+        CHECK.due("two of them", 23, y.times(1, 1));
+        HeardNext z = Check.terrace("house a 3 1;house b 7 2;keeps=if part<1 then 1-hour else if part<2 then hour/23 else if hour<22 then 0 else 23-hour;");
+        CHECK.due("three of them", 3, z.times(1, -1));
+        CHECK.due("three of them", 21, z.times(1, 0));
+        CHECK.due("three of them", 22, z.times(1, 1));
+        CHECK.due("three of them", 23, z.times(1, 2));
         x.turn(0, false);
         CHECK.due("OFF", -2, x.times(3, -1));
         CHECK.due("OFF, nothing WANTED", 0, x.times(4, -1));

@@ -62,6 +62,13 @@ public final class HandTest {
         HeardNext y = Check.terrace("house a 0 0;house b 0 0;turns=9;dies=101;");
         CHECK.due("turns above", 7, y.house(1, 7));
         CHECK.due("dies above", 100, y.house(1, 9));
+        HeardNext v = Check.terrace("house a 0 0;house b 0 0;turns=1+part;dies=1+part*9+parts*9;hums=1+part*9+parts*9;keeps=1+part-parts;");
+        v.send(255);
+        v.hours(1);
+        CHECK.due("part of TURNS", 1, v.house(1, 7));
+        CHECK.due("part and parts of HUMS", 1, v.house(1, 8));
+        CHECK.due("part and parts of DIES", 1, v.house(1, 9));
+        CHECK.due("part and parts of KEEPS: 0 is lost, 7 becomes 0", 1, v.passed(1, 129));
         HeardNext z = Check.terrace("house a 0 0;house b 0 0;turns=0-1;dies=0-1;");
         CHECK.due("turns below", 0, z.house(1, 7));
         CHECK.due("dies below", 0, z.house(1, 9));
@@ -123,6 +130,9 @@ public final class HandTest {
         CHECK.due("next door, an hour back", 9, x.house(1, 2));
         x.hours(23);
         CHECK.due("next day", 129, x.count(4));
+        CHECK.yes("send to one HOUSE", Check.terrace("house a 1 1;").send(1));
+        CHECK.no("send to none", Check.terrace("sends 0 1;").send(1));
+        CHECK.due("SENDS without HOUSES", 1, Check.terrace("sends 0 1;").count(4));
     }
 
     private static void carryAndChange() {

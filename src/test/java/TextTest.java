@@ -67,6 +67,8 @@ public final class TextTest {
         reads("housea 1 2;", 1, 0);
         reads("house abcdefgh 1 2;", 0, -1);
         reads("house abcdefghi 1 2;", 1, 6);
+        reads("house zaz 1 2;house z 1 2;house zz 1 2;", 0, -1);
+        reads("house a99 9;", 0, -1);
         reads("house a 0012 2;", 0, -1);
         reads("house a 00012 2;", 1, 8);
         reads("house A 1 2;", 1, 6);
@@ -139,6 +141,9 @@ public final class TextTest {
         reads("hums=" + times(6, "(") + "1" + times(6, ")") + ";", 0, -1);
         reads("hums=" + times(7, "(") + "1" + times(7, ")") + ";", 2, 11);
         reads("hums=" + times(6, "(") + "1" + times(6, ")") + "+" + times(6, "(") + "1" + times(6, ")") + ";", 0, -1);
+        reads("hums=if 1<2 then " + times(6, "(") + "1" + times(6, ")") + " else 2;", 0, -1);
+        reads("hums=if 1<2 then " + times(7, "(") + "1" + times(7, ")") + " else 2;", 2, 23);
+        reads("hums=if 1<2 then 1 else " + times(7, "(") + "1" + times(7, ")") + ";", 2, 30);
         reads("hums=if " + times(6, "(") + "1" + times(6, ")") + "<" + times(7, "(") + "1", 2, 28);
         // 133 tells of three TOKENS are 399
         reads(times(133, "seed 1;"), 0, -1);
@@ -165,6 +170,7 @@ public final class TextTest {
         reads("house a 1 100;", 5, 10);
         reads("house a 300 100;", 5, 8);
         reads("sends 23 255;", 0, -1);
+        reads("sends 0 0;", 0, -1);
         reads("sends 24 0;", 5, 6);
         reads("sends 9999 0;", 5, 6);
         reads("sends 0 256;", 5, 8);
@@ -173,6 +179,7 @@ public final class TextTest {
         reads("grief 99;", 0, -1);
         reads("grief 100;", 5, 6);
         reads("seed 9999;", 0, -1);
+        reads("seed 0;", 0, -1);
         reads("hums=9999;", 0, -1);
         reads("house a 1 2;house a 3 4;", 3, 18);
         reads("house a 1 2;house aa 3 4;house b 3 4;", 0, -1);

@@ -43,6 +43,10 @@ public final class ToldTest {
         CHECK.due("in all", 10, x.sent(2, 2));
         CHECK.due("in none", 5, x.sent(2, 3));
         CHECK.due("the first alone", 64, x.sent(1, 0));
+        HeardNext y = Check.terrace(ROW);
+        y.tell(0, 129);
+        CHECK.due("one is left, in all", 129, y.sent(1, 2));
+        CHECK.due("one is left, in none", 126, y.sent(1, 3));
         x.tell(1, 11);
         CHECK.due("none is left", 0, x.sent(3, 0));
         CHECK.due("none is left", -2, x.sent(3, 1));

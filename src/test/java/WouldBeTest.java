@@ -181,6 +181,10 @@ public final class WouldBeTest {
         CHECK.due("all four", 4, y.changeBest(1));
         y.turn(3, false);
         CHECK.due("OFF", -2, y.changeBest(0));
+        HeardNext w = Check.terrace("house a 8 0;house b 0 0;hums=if hour<1 then 0 else 8;dies=100;grief 99;");
+        CHECK.due("the hum of hour 1, no DEATHS", 1, w.changeBest(0));
+        w.hours(1);
+        CHECK.due("GRIEF that there is", -2, w.changeBest(0));
         // 48 HOURS and no more: hour 47 is the last
         HeardNext z = Check.terrace("house a 0 0;house b 1 0;hums=0;sends 23 1;keeps=if day<1 then 0 else if day<2 then 0 else 1;");
         CHECK.due("SENT to HOUSE 0 in time", 1, z.changeBest(0));
@@ -219,6 +223,10 @@ public final class WouldBeTest {
         CHECK.due("SEED 9999", 0, z.year(1, 2, 1));
         CHECK.due("SEEDS 9999, 10000", 1, z.year(1, 2, 2));
         CHECK.due("in time behind GRIEF", 2, z.year(1, 8, 2));
+        HeardNext v = Check.terrace(row + "dies=20;seed 8;");
+        CHECK.due("SEED 8, not 7", 0, v.year(1, 2, 1));
+        HeardNext w = Check.terrace("house a 0 0;house b 4 0;hums=if hour<1 then 0 else 4;dies=41;seed 9999;");
+        CHECK.due("SEEDS 9999, 10000: 16, 40", 0, w.year(1, 2, 2));
         CHECK.due("year(2, 1, 1)", -1, x.year(2, 1, 1));
         CHECK.due("year(-1, 1, 1)", -1, x.year(-1, 1, 1));
         CHECK.due("year(0, -1, 1)", -1, x.year(0, -1, 1));
