@@ -1133,20 +1133,16 @@ public final class HeardNext {
             return next < tokens.size ? tokens.kind[next] : END;
         }
 
-        private int start() {
-            return next <= MOST_TOKENS ? tokens.start[next] : NONE;
-        }
-
         private boolean stop(int why) {
             fault = why;
-            faultPlace = start();
+            faultPlace = next <= MOST_TOKENS ? tokens.start[next] : NONE;
             return false;
         }
 
         private void noteLate(int why) {
-            if (lateFault == 0) {
+            if (lateFault == 0 && next <= MOST_TOKENS) {
                 lateFault = why;
-                latePlace = start();
+                latePlace = tokens.start[next];
             }
         }
 
@@ -1500,26 +1496,22 @@ public final class HeardNext {
             hum = NONE;
         }
 
-        private static int clamp(int n, int most) {
-            return Math.max(0, Math.min(n, most));
-        }
-
         int turning(int parts) {
             if (turn[parts] == NONE) {
-                turn[parts] = clamp(laws.worth(TURNS, vars, 0, parts), PARTS - 1);
+                turn[parts] = Math.max(0, Math.min(PARTS - 1, laws.worth(TURNS, vars, 0, parts)));
             }
             return turn[parts];
         }
 
         int humming() {
             if (hum == NONE) {
-                hum = clamp(laws.worth(HUMS, vars, 0, 0), ALL_PARTS);
+                hum = Math.max(0, Math.min(ALL_PARTS, laws.worth(HUMS, vars, 0, 0)));
             }
             return hum;
         }
 
         int dying() {
-            return clamp(laws.worth(DIES, vars, 0, 0), 100);
+            return Math.max(0, Math.min(100, laws.worth(DIES, vars, 0, 0)));
         }
 
         int passing(int programme) {

@@ -263,7 +263,7 @@ public final class ModelTest {
     }
 
     public static void main(String[] args) {
-        int runs = args.length > 0 ? Integer.parseInt(args[0]) : 150;
+        int runs = args.length > 0 ? Integer.parseInt(args[0]) : 300;
         int from = args.length > 1 ? Integer.parseInt(args[1]) : 0;
         for (int i = from; i < from + runs; i++) {
             new ModelTest(i).live(90);
