@@ -31,6 +31,8 @@ public final class HandTest {
         CHECK.due("fourth if", 9, law("if 2<1 then 3 else if 2<1 then 5 else if 2<1 then 6 else if 1<2 then 9 else 8", 0));
         CHECK.due("least int by -1 wraps", 7, law("7 + (0-2048*1024*1024)/(0-1)/(2048*1024*1024) - 1", 0));
         CHECK.due("brackets", 63, law("((((((9999-9936))))))", 0));
+        CHECK.due("as much waits as can", 16, law("if 1<1+1*(1+1*(1+1*(1+1*(1+1*(1+1*(1+1*9)))))) then 16 else 6", 0));
+        CHECK.due("as much waits as can", 6, law("if 99<1+1*(1+1*(1+1*(1+1*(1+1*(1+1*(1+1*9)))))) then 16 else 6", 0));
         CHECK.due("door", 2, law("door", 2));
         CHECK.due("many", 3, law("many", 2));
         CHECK.due("age", 33, law("age", 1));
