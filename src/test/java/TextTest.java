@@ -3,22 +3,15 @@ public final class TextTest {
     private static final Check CHECK = new Check();
 
     private static void reads(String text, int fault, int place) {
-        HeardNext x = new HeardNext();
-        CHECK.due("read of " + text, fault, Check.read(x, text));
-        CHECK.due("place of " + text, place, x.place());
-        CHECK.due("tape behind " + text, 0, x.count(9));
+        CHECK.reads(text, fault, place);
     }
 
     private static String times(int n, String text) {
-        StringBuilder all = new StringBuilder();
-        for (int i = 0; i < n; i++) all.append(text);
-        return all.toString();
+        return text.repeat(n);
     }
 
     private static String houses(int n) {
-        StringBuilder all = new StringBuilder();
-        for (int i = 0; i < n; i++) all.append("house ").append((char) ('a' + i)).append(" 1 2;");
-        return all.toString();
+        return Check.houses(n, "1 2");
     }
 
     private static void newObject() {
