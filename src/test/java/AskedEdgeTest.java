@@ -468,6 +468,11 @@ public final class AskedEdgeTest {
         String late = "house a 1 0;house b 0 0;keeps=0;hums=if day*24+hour<";
         CHECK.due("the hum of hour 47", 1, Check.terrace(late + "47 then 0 else 1;").changeBest(0));
         CHECK.due("the hum of hour 48", -2, Check.terrace(late + "48 then 0 else 1;").changeBest(0));
+        CHECK.says("having changed HOUSES now: AGE goes with them");
+        HeardNext v = Check.terrace("house a 0 90;house b 1 10;keeps=0;hums=if door<1 then 0 else if age<50 then 0 else 1;");
+        CHECK.due("b hears nothing at her AGE, nor in HOUSE 0", -2, v.changeBest(0));
+        v = Check.terrace("house a 1 90;house b 0 10;keeps=0;hums=if door<1 then 0 else if age<50 then 0 else 1;");
+        CHECK.due("a does", 1, v.changeBest(0));
         CHECK.says("having changed HOUSES now: what was had goes with them");
         HeardNext w = Check.terrace("house a 3 0;house b 2 0;keeps=0;hums=1;");
         w.send(2);

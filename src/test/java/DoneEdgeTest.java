@@ -170,6 +170,38 @@ public final class DoneEdgeTest {
         CHECK.no("none is left", w.undo());
     }
 
+    /** Each thing done, and all that it changed, seen again as it was. */
+    private static void undoneWhole() {
+        CHECK.says("The last thing done is undone: all of it");
+        HeardNext x = Check.terrace(ROW + "sends 0 7;dies=door*40;hums=door;seed 3;");
+        HeardNext y = Check.terrace(ROW + "sends 0 7;dies=door*40;hums=door;seed 3;");
+        x.hours(3);
+        y.hours(3);
+        java.util.List<Integer> asItWas = Check.seen(y);
+        for (int thing = 0; thing < 5; thing++) {
+            switch (thing) {
+                case 0: x.turn(1, false); break;
+                case 1: x.send(99); break;
+                case 2: x.carry(1, 0); break;
+                case 3: x.change(0, 2); break;
+                default: x.hours(72);
+            }
+            CHECK.no("thing " + thing + " was done", asItWas.equals(Check.seen(x)));
+            CHECK.yes("undo", x.undo());
+            CHECK.yes("thing " + thing + " is undone", asItWas.equals(Check.seen(x)));
+        }
+        CHECK.says("It goes on from what a SLOT holds: all of it");
+        x.hold(1);
+        x.change(0, 2);
+        x.change(0, 1);
+        x.turn(2, false);
+        x.hours(9);
+        x.restore(1);
+        for (int h = 0; h < 3; h++) {
+            for (int what = 0; what < 10; what++) CHECK.due("house(" + h + ", " + what + ")", y.house(h, what), x.house(h, what));
+        }
+    }
+
     private static void tell() {
         CHECK.says("It is TOLD: its number; NONE, and nothing happens: 20 are there");
         HeardNext x = Check.terrace(ROW);
@@ -304,6 +336,7 @@ public final class DoneEdgeTest {
         carryAndChange();
         hours();
         undo();
+        undoneWhole();
         tell();
         hold();
         count();

@@ -41,6 +41,16 @@ public final class HourEdgeTest {
         }
     }
 
+    private static void deepest() {
+        CHECK.says("as much waits as can: behind the most ifs, six ( within one another, a PART ahead of * and one ahead of + in each");
+        String deep = "1+1*(1+1*(1+1*(1+1*(1+1*(1+1*(1+1*9))))))";
+        CHECK.due("it alone", 16, law(deep));
+        String ifs = ("if 5<" + "4 then 1 else ").repeat(4);
+        CHECK.due("the last E", 16, law(ifs + deep));
+        CHECK.due("both sides of <, and then", 16, law("if " + deep + "<1+" + deep + " then " + deep + " else 3"));
+        CHECK.due("both sides of each <, and the last E", 16, law(("if " + deep + "<" + deep + " then 4 else ").repeat(3) + deep));
+    }
+
     private static void arithmetic() {
         CHECK.says("ints of 32 bits that wrap");
         CHECK.due("the greatest and 1 more", 1, law("if " + GREATEST + "+1<0 then 1 else 2"));
@@ -343,6 +353,7 @@ public final class HourEdgeTest {
     public static void main(String[] args) {
         hourAndDay();
         firstIf();
+        deepest();
         arithmetic();
         dividedByNone();
         vars();

@@ -220,6 +220,10 @@ public final class TextEdgeTest {
             reads(joined(n, "="), 1, WHOLE[n].equals("=") ? text.length() + 1 : text.length());
             // a TELL's word fits only where a TELL may begin
             reads(joined(n, "seed 1;"), whole ? 0 : 1, whole ? -1 : text.length());
+            // the first FAULT counts, whatever is behind it
+            reads(joined(n, "seed 1;!"), 1, whole ? text.length() + 7 : text.length());
+            reads(joined(n, "grief 0;"), whole ? 5 : 1, whole ? text.length() + 6 : text.length());
+            reads(joined(n, "hums=((((((("), whole ? 2 : 1, whole ? text.length() + 11 : text.length());
         }
     }
 
@@ -290,6 +294,9 @@ public final class TextEdgeTest {
         String open = "hums=" + "1+".repeat(196) + "((((((";
         reads(open + "(", 2, open.length());
         CHECK.says("the first by its place");
+        reads("hums 1;!", 1, 5);
+        reads("hums 1;grief 0;((", 1, 5);
+        reads("sends a 1;!", 1, 6);
         reads(soMany(399) + "! seed", 1, soMany(399).length());
         reads(soMany(398) + "seed 1;", 2, soMany(398).length() + 6);
         reads(soMany(398) + "seed 1 1", 1, soMany(398).length() + 7);
@@ -306,6 +313,27 @@ public final class TextEdgeTest {
         java.util.regex.Matcher token = java.util.regex.Pattern.compile("[a-z]+|[0-9]+|[^a-z0-9 ]").matcher(text);
         for (int i = 0; i < n; i++) token.find();
         return token.start();
+    }
+
+    /** NAMES of few letters, so that some are told twice; those alike in all but their places are not. */
+    private static void manyNames() {
+        CHECK.says("TWICE: a NAME told already");
+        reads("house ab 1 2;house r 1 2;house ba 1 2;house b 1 2;house aab 1 2;house ar 1 2;", 0, -1);
+        java.util.Random random = new java.util.Random(5);
+        for (int text = 0; text < 400; text++) {
+            StringBuilder all = new StringBuilder();
+            java.util.Set<String> names = new java.util.HashSet<>();
+            int place = -1;
+            String letters = text % 2 == 0 ? "abcdefghijklmnopqrstuvwxyz" : "abopqz";
+            for (int h = 0; h < 10; h++) {
+                StringBuilder name = new StringBuilder();
+                int length = text % 4 < 2 ? 1 + random.nextInt(2) : 7 + random.nextInt(2);
+                for (int i = 0; i < length; i++) name.append(i + 2 < length ? 'x' : letters.charAt(random.nextInt(letters.length())));
+                if (!names.add(name.toString()) && place < 0) place = all.length() + 6;
+                all.append("house ").append(name).append(" 1 2;");
+            }
+            reads(all.toString(), place < 0 ? 0 : 3, place);
+        }
     }
 
     private static void twice() {
@@ -408,6 +436,55 @@ public final class TextEdgeTest {
         CHECK.due("told twice: 0", 0, Check.terrace("seed 7;" + frail + "seed 0;").mourn(1));
     }
 
+    private static void longLaws() {
+        CHECK.says("LAWS of as many TOKENS as there may be");
+        String house = "house a 0 0;";
+        // five TOKENS for the HOUSE, two ahead of the LAW, 391 in it, one behind it: 399
+        HeardNext x = Check.terrace(house + "hums=" + "1+".repeat(195) + "1;");
+        CHECK.due("196 ones", 196, x.house(0, 8));
+        CHECK.due("195 of them, less 2", 193, Check.terrace("hums=" + "1+".repeat(192) + "1+1-2+1;" + house).house(0, 8));
+        for (int again = 0; again < 10; again++) {
+            CHECK.due("read", 0, Check.read(x, house + "hums=" + "1+".repeat(195 - again) + "1;"));
+            CHECK.due("text " + again, 196 - again, x.house(0, 8));
+        }
+    }
+
+    /** A text that tells nothing is as that of a new object, however many have told all ahead of it, with a FAULT or without. */
+    private static void nothingIsLeft() {
+        CHECK.says("it is in place of the one ahead");
+        String all = "keeps=0;turns=3;hums=9;dies=100;grief 3;seed 7;sends 0 9;sends 5 8;";
+        for (int ahead = 1; ahead <= 4; ahead++) {
+            for (String end : new String[] {"", "!"}) {
+                HeardNext x = new HeardNext();
+                for (int i = 0; i < ahead; i++) {
+                    Check.read(x, "house q 3 50;" + all + (i % 2 == 0 ? end : ""));
+                    x.comes(0, 7);
+                }
+                CHECK.due("read", 0, Check.read(x, "house a 0 0;house b 5 0;"));
+                CHECK.due("SENDS", 0, x.count(1));
+                CHECK.due("SENT", 0, x.count(4));
+                CHECK.due("COMES", 77, x.comes(1, 77));
+                CHECK.due("PASSED", 77, x.passed(1, 77));
+                for (int what = 7; what <= 9; what++) CHECK.due("house(1, " + what + ")", 0, x.house(1, what));
+                x.hours(6);
+                CHECK.due("SENT in hour 5", 0, x.house(0, 2));
+                CHECK.due("read", 0, Check.read(x, all + "seed 0;"));
+                CHECK.due("read", 0, Check.read(x, "house a 0 0;dies=50;"));
+                CHECK.due("SEED 0: 95", 0, x.mourn(1));
+                CHECK.due("read", 0, Check.read(x, "house a 0 0;dies=96;"));
+                x.hours(1);
+                CHECK.due("GRIEF 6", 6, x.house(0, 5));
+            }
+        }
+        CHECK.says("it is in place of the one ahead: what COMES, too");
+        HeardNext y = Check.terrace("house a 0 0;house b 0 0;keeps=0;");
+        CHECK.due("all is lost", 0, y.comes(1, 255));
+        Check.read(y, "house a 0 0;house b 0 0;!");
+        CHECK.due("a FAULT: as ahead", 0, y.comes(1, 255));
+        Check.read(y, "house a 0 0;house b 0 0;turns=1;");
+        CHECK.due("nothing is lost", 254, y.comes(1, 127));
+    }
+
     private static HeardNext lived() {
         HeardNext x = Check.terrace("house a 3 20;house b 5 33;house c 14 40;sends 0 7;dies=if door<2 then 0 else 100;hums=door;");
         x.hours(2);
@@ -455,8 +532,11 @@ public final class TextEdgeTest {
         rooms();
         tokenRoom();
         twice();
+        manyNames();
         wrong();
         asTold();
+        longLaws();
+        nothingIsLeft();
         inPlace();
         CHECK.end();
     }
