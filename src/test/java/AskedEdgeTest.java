@@ -221,6 +221,10 @@ public final class AskedEdgeTest {
         for (int i = -1; i <= 2; i++) CHECK.due("four hours, i " + i, -2, four.times(1, i));
         HeardNext off = offOf("house a 0 0;house b 1 0;", 0);
         for (int i = -1; i <= 2; i++) CHECK.due("OFF, i " + i, -2, off.times(1, i));
+        CHECK.says("of the next 24, whatever was asked ahead");
+        HeardNext asked = Check.terrace("house a 0 0;house b 1 0;keeps=0;");
+        CHECK.due("apart(0)", 256, asked.apart(0));
+        CHECK.due("nothing comes in any of them", -2, asked.times(1, -1));
         CHECK.says("all that is WANTED there, and was not had");
         HeardNext x = Check.terrace("house a 0 0;house b 15 0;keeps=if hour<part then 0 else if part<hour then 0 else 1;");
         x.send(255);
